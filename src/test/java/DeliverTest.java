@@ -1,0 +1,154 @@
+/** Promise 5: deliver, and what a NOTE, a MAPPING, a WITHDRAW and a RELEASE do when they come. */
+public final class DeliverTest {
+    private static final Class<IndexOutOfBoundsException> INDEX = IndexOutOfBoundsException.class;
+
+    public static void main(String[] args) {
+        wrong();
+        firstFirst();
+        noteGoesOn();
+        olderNoteIsAnswered();
+        mappingInARing();
+        withdrawOfAnotherLabel();
+        Due.end();
+    }
+
+    private static void wrong() {
+        LabelNet net = Nets.pair();
+        Due.thrown(net, "deliver(-1, 0)", INDEX, () -> net.deliver(-1, 0));
+        Due.thrown(net, "deliver(12, 0)", INDEX, () -> net.deliver(12, 0));
+        Due.thrown(net, "deliver(0, -1)", INDEX, () -> net.deliver(0, -1));
+        Due.thrown(net, "deliver(0, 2)", INDEX, () -> net.deliver(0, 2));
+        Due.answer("deliver(0, 0), down", net.deliver(0, 0), -1);
+        Due.answer("deliver(11, 1), not laid", net.deliver(11, 1), -1);
+        net.turn(0, true);
+        Nets.settle(net);
+        Due.answer("deliver(0, 1), none waits", net.deliver(0, 1), -1);
+    }
+
+    private static void firstFirst() {
+        LabelNet net = Nets.pair();
+        net.attach(6, 1);
+        net.turn(0, true);
+        Due.answer("NOTE", net.deliver(0, 1), 0);
+        Due.answer("knows(0, 1)", net.knows(0, 1), 3);
+        Due.answer("way(0, 1, 0): its record says UP, and mine", net.way(0, 1, 0), 1);
+        Due.answer("way(1, 0, 0): nothing came yet", net.way(1, 0, 0), -1);
+        Due.answer("MAPPING", net.deliver(0, 1), 1);
+        Due.answer("label(0, 6, 0, 3)", net.label(0, 6, 0, 3), 3);
+        Due.answer("label(0, 6, -1, 1)", net.label(0, 6, -1, 1), 16);
+        net.inject(0, 6, 1);
+        Due.answer("NOTE of router 0", net.deliver(0, 0), 0);
+        Due.answer("MAPPING back", net.deliver(0, 0), 1);
+        Due.answer("PACKET", net.deliver(0, 0), 4);
+        Due.answer("it is DELIVERED", net.packet(0, 0), 1);
+        Due.answer("RELEASE", net.deliver(0, 1), 3);
+        net.attach(6, -1);
+        Due.answer("NOTE of router 1", net.deliver(0, 1), 0);
+        Due.answer("WITHDRAW", net.deliver(0, 1), 2);
+        Due.answer("none waits", net.deliver(0, 1), -1);
+    }
+
+    /** A NOTE that is known now goes on, but not where it came from; the same one again does nothing. */
+    private static void noteGoesOn() {
+        LabelNet net = new LabelNet(4);
+        net.lay(0, 0, 1, 1);
+        net.lay(1, 1, 2, 1);
+        net.lay(2, 2, 0, 1);
+        net.lay(3, 1, 3, 1);
+        for (int link = 0; link < 4; link++) {
+            net.turn(link, true);
+        }
+        Nets.settle(net);
+        net.attach(0, 0);
+        int number = net.knows(0, 0);
+        Nets.dueNext(net, 0, 0, 0, 0, number, 0);
+        Due.answer("not back: queue(0, 1, 0)", net.queue(0, 1, 0), 0);
+        Nets.dueFirst(net, 1, 0, 0, 0, number, 0);
+        Nets.dueFirst(net, 3, 0, 0, 0, number, 0);
+        Nets.dueNext(net, 2, 0, 0, 0, number, 0);
+        Nets.dueFirst(net, 1, 1, 0, 0, number, 0);
+        Nets.dueNext(net, 1, 1, 0, 0, number, 0);
+        Due.answer("the same again: queue(3, 0, 0)", net.queue(3, 0, 0), 1);
+        Due.answer("the same again: queue(1, 0, 0)", net.queue(1, 0, 0), 1);
+    }
+
+    private static void olderNoteIsAnswered() {
+        LabelNet net = Nets.line(3);
+        net.turn(1, false);
+        net.attach(0, 0);
+        Nets.settle(net);
+        net.turn(1, true);
+        Due.answer("knows(2, 0), the old one", net.knows(2, 0), 2);
+        Nets.dueNext(net, 1, 1, 0, 2, 4, 0);
+        int waiting = net.queue(1, 0, 0);
+        Nets.dueNext(net, 1, 1, 0, 0, 2, 0);
+        Due.answer("knows(1, 0)", net.knows(1, 0), 3);
+        Due.answer("a NOTE more goes back", net.queue(1, 0, 0), waiting + 1);
+        Nets.dueNext(net, 1, 1, 0, 1, 3, 0);
+        Due.answer("its own record: none goes back", net.queue(1, 0, 0), waiting + 1);
+        for (int i = 1; i < waiting; i++) {
+            net.deliver(1, 0);
+        }
+        net.deliver(1, 0);
+        Nets.dueFirst(net, 1, 0, 0, 0, 3, 0);
+    }
+
+    /** A MAPPING whose path has the router is released at once, and takes away the one before. */
+    private static void mappingInARing() {
+        LabelNet net = new LabelNet(3);
+        net.lay(0, 0, 1, 1);
+        net.lay(1, 1, 2, 1);
+        net.lay(2, 0, 2, 5);
+        net.attach(0, 0);
+        for (int link = 0; link < 3; link++) {
+            net.turn(link, true);
+        }
+        Nets.settle(net);
+        Due.answer("label(2, 0, -1, 2)", net.label(2, 0, -1, 2), 7);
+        Due.answer("router 1 does not have 2's: its path leads by 1", net.label(1, 0, 1, 3), -1);
+        Due.answer("router 0 has none by link 2", net.label(0, 0, 2, 3), -1);
+        net.turn(0, false);
+        Nets.settle(net);
+        Due.answer("label(2, 0, -1, 2), the other way round", net.label(2, 0, -1, 2), 5);
+        Due.answer("label(1, 0, 1, 4): now it has 2's", net.label(1, 0, 1, 4), 5);
+        Due.answer("label(1, 0, -1, 2)", net.label(1, 0, -1, 2), 7);
+        net.turn(0, true);
+        Nets.settle(net);
+        Due.answer("label(2, 0, -1, 2), again", net.label(2, 0, -1, 2), 7);
+        Due.answer("label(1, 0, 1, 4): forgotten", net.label(1, 0, 1, 4), -1);
+    }
+
+    /** Router 0 has router 1's mapping of 3, and a WITHDRAW of 16 comes, of which it never had a mapping. */
+    private static void withdrawOfAnotherLabel() {
+        LabelNet net = Nets.line(3);
+        net.attach(0, 1);
+        Nets.settle(net);
+        net.attach(0, 2);
+        settleLink(net, 1);
+        net.attach(0, -1);
+        settleLink(net, 1);
+        Due.answer("queue(0, 1, 0)", net.queue(0, 1, 0), 6);
+        net.spoil(0, 1, 1);
+        net.spoil(0, 1, 3);
+        Nets.dueNext(net, 0, 1, 0, 1, 5, 0);
+        Nets.dueNext(net, 0, 1, 10, 0, 3, 0);
+        Nets.dueNext(net, 0, 1, 0, 2, 3, 0);
+        Nets.dueNext(net, 0, 1, 9, 0, 16, 6);
+        Nets.dueNext(net, 0, 1, 0, 2, 4, 0);
+        Due.answer("label(0, 0, 0, 3)", net.label(0, 0, 0, 3), 3);
+        int waiting = net.queue(0, 0, 0);
+        Nets.dueNext(net, 0, 1, 2, 0, 16, 0);
+        Due.answer("label(0, 0, 0, 3), still", net.label(0, 0, 0, 3), 3);
+        Due.answer("a RELEASE goes back in any case", net.queue(0, 0, 0), waiting + 1);
+        for (int i = 0; i < waiting; i++) {
+            net.deliver(0, 0);
+        }
+        Nets.dueFirst(net, 0, 0, 3, 0, 16, 0);
+    }
+
+    private static void settleLink(LabelNet net, int link) {
+        for (int i = 0; i < 40; i++) {
+            net.deliver(link, i % 2);
+        }
+    }
+}
