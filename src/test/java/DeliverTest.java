@@ -8,6 +8,8 @@ public final class DeliverTest {
         noteGoesOn();
         olderNoteIsAnswered();
         mappingInARing();
+        mappingTakesAway();
+        releaseOfAnotherPrefix();
         withdrawOfAnotherLabel();
         Due.end();
     }
@@ -93,17 +95,9 @@ public final class DeliverTest {
         Nets.dueFirst(net, 1, 0, 0, 0, 3, 0);
     }
 
-    /** A MAPPING whose path has the router is released at once, and takes away the one before. */
+    /** A MAPPING whose path has the router is released at once. */
     private static void mappingInARing() {
-        LabelNet net = new LabelNet(3);
-        net.lay(0, 0, 1, 1);
-        net.lay(1, 1, 2, 1);
-        net.lay(2, 0, 2, 5);
-        net.attach(0, 0);
-        for (int link = 0; link < 3; link++) {
-            net.turn(link, true);
-        }
-        Nets.settle(net);
+        LabelNet net = Nets.ring(0);
         Due.answer("label(2, 0, -1, 2)", net.label(2, 0, -1, 2), 7);
         Due.answer("router 1 does not have 2's: its path leads by 1", net.label(1, 0, 1, 3), -1);
         Due.answer("router 0 has none by link 2", net.label(0, 0, 2, 3), -1);
@@ -116,6 +110,57 @@ public final class DeliverTest {
         Nets.settle(net);
         Due.answer("label(2, 0, -1, 2), again", net.label(2, 0, -1, 2), 7);
         Due.answer("label(1, 0, 1, 4): forgotten", net.label(1, 0, 1, 4), -1);
+    }
+
+    /** A MAPPING of the same label, but with a path that has the router: the one before is forgotten. */
+    private static void mappingTakesAway() {
+        LabelNet net = Nets.ring(0);
+        net.turn(0, false);
+        Nets.settle(net);
+        Due.answer("label(1, 0, 1, 4)", net.label(1, 0, 1, 4), 5);
+        net.turn(0, true);
+        settleLink(net, 0);
+        // Router 2 has router 1's mapping before it hears of router 0's new link.
+        for (int i = 0; i < 16 && net.queue(1, 0, 0) > 0; i++) {
+            if (net.queue(1, 0, 1) == 0 && net.queue(1, 0, 2) == 0) {
+                net.spoil(1, 0, 0);
+            }
+            net.deliver(1, 0);
+        }
+        Due.answer("label(2, 0, 1, 4)", net.label(2, 0, 1, 4), 3);
+        Due.answer("label(2, 0, -1, 2)", net.label(2, 0, -1, 2), 5);
+        net.deliver(2, 0);
+        Due.answer("label(2, 0, -1, 2)", net.label(2, 0, -1, 2), 7);
+        for (int i = 0; i < 16 && net.queue(1, 1, 1) != 1; i++) {
+            net.deliver(1, 1);
+        }
+        Due.answer("label(1, 0, 1, 3)", net.label(1, 0, 1, 3), 16);
+        Nets.dueNext(net, 1, 1, 1, 0, 16, 7);
+        Due.answer("label(1, 0, 1, 3), forgotten", net.label(1, 0, 1, 3), -1);
+        Due.answer("label(1, 0, 1, 4), forgotten", net.label(1, 0, 1, 4), -1);
+    }
+
+    /** Label 16 was prefix 0's and is prefix 1's now: a late RELEASE for prefix 0 does not count. */
+    private static void releaseOfAnotherPrefix() {
+        LabelNet net = Nets.line(2);
+        net.attach(0, 0);
+        Nets.settle(net);
+        net.attach(0, -1);
+        net.deliver(0, 0);
+        net.deliver(0, 0);
+        Due.answer("count(1, 0): router 0 has released 16 before", net.count(1, 0), 0);
+        net.attach(1, 0);
+        net.deliver(0, 0);
+        net.deliver(0, 0);
+        Due.answer("label(1, 1, -1, 1)", net.label(1, 1, -1, 1), 16);
+        Nets.dueNext(net, 0, 1, 2, 0, 16, 0);
+        net.attach(1, -1);
+        Nets.dueNext(net, 0, 0, 3, 0, 16, 0);
+        Due.answer("NOTE", net.deliver(0, 0), 0);
+        Due.answer("label(1, 1, -1, 1)", net.label(1, 1, -1, 1), -1);
+        Due.answer("count(1, 0): prefix 1's 16 is not released", net.count(1, 0), 1);
+        Nets.settle(net);
+        Due.answer("count(1, 0)", net.count(1, 0), 0);
     }
 
     /** Router 0 has router 1's mapping of 3, and a WITHDRAW of 16 comes, of which it never had a mapping. */

@@ -146,15 +146,7 @@ public final class InjectTest {
 
     /** Router 0 does not hear that link 1 is down: it and router 1 send a packet to and fro. */
     private static void round() {
-        LabelNet net = new LabelNet(3);
-        net.lay(0, 0, 1, 1);
-        net.lay(1, 1, 2, 1);
-        net.lay(2, 0, 2, 9);
-        for (int link = 0; link < 3; link++) {
-            net.turn(link, true);
-        }
-        net.attach(0, 2);
-        Nets.settle(net);
+        LabelNet net = Nets.ring(2);
         net.turn(1, false);
         net.spoil(0, 1, 0);
         Nets.dueNext(net, 0, 1, 8, 1, 4, 0);

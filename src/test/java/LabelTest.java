@@ -10,6 +10,7 @@ public final class LabelTest {
         waitsForReleaseAnew();
         leastFreeLabel();
         noFreeLabel();
+        lostMappingWasPut();
         Due.end();
     }
 
@@ -87,22 +88,9 @@ public final class LabelTest {
         seen(net, 0, 1, 0, 3, 1);
     }
 
-    /** The ring 0 - 1 - 2 with prefix 0 at router 0; router 2 goes by router 1 while link 0 is UP. */
-    private static LabelNet ring() {
-        LabelNet net = new LabelNet(3);
-        net.lay(0, 0, 1, 1);
-        net.lay(1, 1, 2, 1);
-        net.lay(2, 0, 2, 5);
-        for (int link = 0; link < 3; link++) {
-            net.turn(link, true);
-        }
-        net.attach(0, 0);
-        Nets.settle(net);
-        return net;
-    }
-
+    /** Router 2 goes by router 1 while link 0 is UP. */
     private static void otherPathSameLabel() {
-        LabelNet net = ring();
+        LabelNet net = Nets.ring(0);
         seen(net, 2, 0, 0, 16, 7);
         net.turn(0, false);
         int number = net.knows(1, 1);
@@ -165,7 +153,7 @@ public final class LabelTest {
 
     /** A RELEASE from before the last MAPPING to a link does not count for it. */
     private static void waitsForReleaseAnew() {
-        LabelNet net = ring();
+        LabelNet net = Nets.ring(0);
         net.turn(0, false);
         Nets.settle(net);
         Due.answer("label(1, 0, 1, 3): router 1 has it now", net.label(1, 0, 1, 3), 16);
@@ -240,6 +228,29 @@ public final class LabelTest {
         for (int prefix = 0; prefix < 8; prefix++) {
             seen(net, 1, prefix, 0, 16 + prefix, 3);
         }
+    }
+
+    /** Link 1 is full when router 1's MAPPING is put to it: the label waits for its RELEASE all the same. */
+    private static void lostMappingWasPut() {
+        LabelNet net = Nets.line(3);
+        net.attach(7, 2);
+        Nets.settle(net);
+        for (int i = 0; i < 16; i++) {
+            net.inject(1, 7, 9);
+        }
+        net.attach(0, 0);
+        net.deliver(0, 0);
+        net.deliver(0, 0);
+        seen(net, 1, 0, 0, 17, 3);
+        Due.answer("count(1, 1), a NOTE and a MAPPING", net.count(1, 1), 2);
+        Nets.dueNext(net, 0, 1, 1, 0, 17, 3);
+        Nets.dueNext(net, 0, 0, 3, 0, 17, 0);
+        net.attach(0, -1);
+        net.deliver(0, 0);
+        seen(net, 1, 0, -1, -1);
+        Due.answer("count(1, 0)", net.count(1, 0), 2);
+        net.turn(1, false);
+        Due.answer("count(1, 0): 16 waits for link 0 alone, 17 for none", net.count(1, 0), 1);
     }
 
     private static void attachAll(LabelNet net, int router) {

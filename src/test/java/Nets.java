@@ -27,6 +27,23 @@ final class Nets {
         return net;
     }
 
+    /**
+     * The ring 0 - 1 - 2 with prefix 0 at a router, all UP and at rest: links 0 and 1 lead from 0 by 1 to 2
+     * at a cost of 2, link 2 from 0 to 2 at a cost of 5.
+     */
+    static LabelNet ring(int router) {
+        LabelNet net = new LabelNet(3);
+        net.lay(0, 0, 1, 1);
+        net.lay(1, 1, 2, 1);
+        net.lay(2, 0, 2, 5);
+        for (int link = 0; link < 3; link++) {
+            net.turn(link, true);
+        }
+        net.attach(0, router);
+        settle(net);
+        return net;
+    }
+
     /** Routers 0 and 1 with link 0 of cost 1, down. */
     static LabelNet pair() {
         LabelNet net = new LabelNet(2);

@@ -9,6 +9,7 @@ public final class TurnTest {
         goesDown();
         downReleases();
         upWithOldRecords();
+        checksBehind();
         Due.end();
     }
 
@@ -122,5 +123,25 @@ public final class TurnTest {
         Nets.dueNext(net, 0, 0, 0, 0, 4, 0);
         Nets.dueNext(net, 0, 0, 0, 1, 3, 0);
         Due.answer("its own old record does nothing: queue(0, 1, 0)", net.queue(0, 1, 0), 3);
+    }
+
+    /**
+     * In a ring router 2 goes by link 1, then by link 2 while that is down, and by link 1 again when it
+     * comes UP, by router 1's old record: what it mapped is put first, and withdrawn by the CHECK behind.
+     */
+    private static void checksBehind() {
+        LabelNet net = Nets.ring(0);
+        net.turn(1, false);
+        Due.answer("label(2, 0, -1, 1)", net.label(2, 0, -1, 1), 16);
+        Due.answer("label(2, 0, -1, 2)", net.label(2, 0, -1, 2), 5);
+        net.turn(1, true);
+        Due.answer("way(2, 0, 1)", net.way(2, 0, 1), 1);
+        Due.answer("label(2, 0, -1, 1), link 1 brought no mapping", net.label(2, 0, -1, 1), -1);
+        Due.answer("queue(1, 1, 0)", net.queue(1, 1, 0), 5);
+        Nets.dueNext(net, 1, 1, 0, 2, 5, 0);
+        Nets.dueNext(net, 1, 1, 0, 0, net.knows(2, 0), 0);
+        Nets.dueNext(net, 1, 1, 0, 1, 3, 0);
+        Nets.dueNext(net, 1, 1, 1, 0, 16, 5);
+        Nets.dueNext(net, 1, 1, 2, 0, 16, 0);
     }
 }

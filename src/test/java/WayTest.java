@@ -6,6 +6,7 @@ public final class WayTest {
         leastLink();
         bothSay();
         oldRecords();
+        newLinkOfTheSameCost();
         Due.end();
     }
 
@@ -122,5 +123,22 @@ public final class WayTest {
         // Router 2 still knows router 3's record of before, which says that the link is UP.
         ways(net, 2, 3, 3, 2);
         ways(net, 1, 3, -1, -1);
+    }
+
+    /** A HOP is a link that is UP and in the router's own record; the cost and the rest make the DISTANCE. */
+    private static void newLinkOfTheSameCost() {
+        LabelNet net = new LabelNet(2);
+        net.lay(0, 0, 1, 4);
+        net.lay(1, 0, 1, 4);
+        net.lay(2, 0, 1, 3);
+        net.turn(1, true);
+        Nets.settle(net);
+        ways(net, 0, 1, 4, 1);
+        net.turn(0, true);
+        ways(net, 0, 1, 4, 0);
+        net.turn(2, true);
+        ways(net, 0, 1, 4, 0);
+        Nets.settle(net);
+        ways(net, 0, 1, 3, 2);
     }
 }
