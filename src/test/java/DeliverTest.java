@@ -6,11 +6,15 @@ public final class DeliverTest {
         wrong();
         firstFirst();
         noteGoesOn();
+        ownNoteComesBack();
         olderNoteIsAnswered();
         mappingInARing();
         mappingTakesAway();
         releaseOfAnotherPrefix();
+        releaseOfThree();
         withdrawOfAnotherLabel();
+        withdrawOfNoMapping();
+        releaseBeforeTheCheck();
         Due.end();
     }
 
@@ -72,6 +76,20 @@ public final class DeliverTest {
         Nets.dueNext(net, 1, 1, 0, 0, number, 0);
         Due.answer("the same again: queue(3, 0, 0)", net.queue(3, 0, 0), 1);
         Due.answer("the same again: queue(1, 0, 0)", net.queue(1, 0, 0), 1);
+    }
+
+    /** Round the ring router 0's own record comes back to it, with the number that it has: nothing. */
+    private static void ownNoteComesBack() {
+        LabelNet net = Nets.ring(1);
+        net.attach(4, 0);
+        int number = net.knows(0, 0);
+        Nets.dueNext(net, 0, 0, 0, 0, number, 0);
+        Nets.dueNext(net, 1, 0, 0, 0, number, 0);
+        int[] waiting = {net.queue(0, 0, 0), net.queue(2, 0, 0)};
+        Nets.dueNext(net, 2, 1, 0, 0, number, 0);
+        Due.answer("knows(0, 0)", net.knows(0, 0), number);
+        Due.answer("none goes on: queue(0, 0, 0)", net.queue(0, 0, 0), waiting[0]);
+        Due.answer("none goes back: queue(2, 0, 0)", net.queue(2, 0, 0), waiting[1]);
     }
 
     private static void olderNoteIsAnswered() {
@@ -163,6 +181,24 @@ public final class DeliverTest {
         Due.answer("count(1, 0)", net.count(1, 0), 0);
     }
 
+    /** Label 3 is never in use: its RELEASE does nothing. */
+    private static void releaseOfThree() {
+        LabelNet net = Nets.line(2);
+        net.attach(0, 0);
+        Nets.settle(net);
+        net.attach(0, -1);
+        Due.answer("count(0, 0)", net.count(0, 0), 0);
+        net.deliver(0, 0);
+        net.deliver(0, 0);
+        net.deliver(0, 1);
+        net.attach(0, 0);
+        int waiting = net.queue(0, 0, 0);
+        Nets.dueNext(net, 0, 1, 3, 0, 3, 0);
+        Due.answer("count(0, 0)", net.count(0, 0), 0);
+        Due.answer("label(0, 0, -1, 1)", net.label(0, 0, -1, 1), 3);
+        Due.answer("queue(0, 0, 0)", net.queue(0, 0, 0), waiting);
+    }
+
     /** Router 0 has router 1's mapping of 3, and a WITHDRAW of 16 comes, of which it never had a mapping. */
     private static void withdrawOfAnotherLabel() {
         LabelNet net = Nets.line(3);
@@ -189,6 +225,35 @@ public final class DeliverTest {
             net.deliver(0, 0);
         }
         Nets.dueFirst(net, 0, 0, 3, 0, 16, 0);
+    }
+
+    /** Router 1's MAPPING led by router 0, so that router 0 has none; the WITHDRAW asks for a RELEASE all the same. */
+    private static void withdrawOfNoMapping() {
+        LabelNet net = Nets.line(2);
+        net.attach(0, 0);
+        Nets.settle(net);
+        net.attach(0, -1);
+        net.deliver(0, 0);
+        Due.answer("label(0, 0, 0, 3)", net.label(0, 0, 0, 3), -1);
+        Due.answer("queue(0, 0, 0)", net.queue(0, 0, 0), 1);
+        Nets.dueNext(net, 0, 1, 2, 0, 16, 0);
+        Due.answer("queue(0, 0, 0)", net.queue(0, 0, 0), 2);
+        Nets.dueNext(net, 0, 0, 2, 0, 3, 0);
+        Nets.dueFirst(net, 0, 0, 3, 0, 16, 0);
+    }
+
+    /** Router 1 is ACTIVE until the WITHDRAW comes: first the RELEASE goes back, then the CHECK is made. */
+    private static void releaseBeforeTheCheck() {
+        LabelNet net = Nets.line(2);
+        net.attach(0, 0);
+        Nets.settle(net);
+        net.attach(0, -1);
+        net.spoil(0, 0, 0);
+        Nets.dueNext(net, 0, 0, 8, 0, 4, 0);
+        Nets.dueNext(net, 0, 0, 2, 0, 3, 0);
+        Due.answer("label(1, 0, -1, 1)", net.label(1, 0, -1, 1), -1);
+        Nets.dueNext(net, 0, 1, 3, 0, 3, 0);
+        Nets.dueNext(net, 0, 1, 2, 0, 16, 0);
     }
 
     private static void settleLink(LabelNet net, int link) {

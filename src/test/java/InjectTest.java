@@ -9,6 +9,8 @@ public final class InjectTest {
         byLabels();
         withoutMapping();
         noLabel();
+        labelWhereItIsAttached();
+        labelOfAnotherPrefix();
         ttl();
         full();
         round();
@@ -101,6 +103,67 @@ public final class InjectTest {
         Due.answer("packet(1, 3), as when it was last put", net.packet(1, 3), 16);
         net.inject(1, 5, 0);
         Due.answer("no WAY comes before TTL", net.packet(2, 0), 2);
+    }
+
+    /** The prefix comes to router 1 while a packet is under way to it: its label is not 1's any more. */
+    private static void labelWhereItIsAttached() {
+        LabelNet net = lineTo3();
+        net.inject(0, 5, 9);
+        net.attach(5, 1);
+        Nets.dueNext(net, 0, 0, 4, 0, 16, 0);
+        Due.answer("no LABEL, though the prefix is attached here", net.packet(0, 0), 3);
+        Due.answer("packet(0, 1)", net.packet(0, 1), 1);
+        net.inject(1, 5, 0);
+        Due.answer("DELIVERED without a label", net.packet(1, 0), 1);
+    }
+
+    /**
+     * Router 0 releases router 1's label 16 twice: the second RELEASE comes when 16 is prefix 5's anew and
+     * counts for it, so that 16 becomes prefix 6's while a packet for prefix 5 is under way with it.
+     */
+    private static void labelOfAnotherPrefix() {
+        LabelNet net = Nets.line(3);
+        net.attach(5, 0);
+        Nets.settle(net);
+        net.attach(5, -1);
+        net.deliver(0, 0);
+        deliver(net, 1, 0, 2);
+        deliver(net, 1, 1, 2);
+        Due.answer("count(1, 0): 16 is free", net.count(1, 0), 0);
+        Nets.dueNext(net, 0, 0, 2, 5, 3, 0);
+        Nets.dueNext(net, 0, 1, 2, 5, 16, 0);
+        net.attach(5, 2);
+        deliver(net, 1, 1, 2);
+        Due.answer("label(1, 5, -1, 1)", net.label(1, 5, -1, 1), 16);
+        Nets.dueNext(net, 0, 0, 3, 5, 16, 0);
+        deliver(net, 1, 0, net.queue(1, 0, 0));
+        deliver(net, 1, 1, net.queue(1, 1, 0));
+        deliver(net, 0, 1, net.queue(0, 1, 0));
+        net.inject(0, 5, 9);
+        Due.answer("packet(0, 3)", net.packet(0, 3), 16);
+        net.attach(5, -1);
+        deliver(net, 1, 1, 1);
+        Due.answer("count(1, 0): 16 is free again", net.count(1, 0), 0);
+        net.attach(6, 2);
+        deliver(net, 1, 1, 3);
+        Due.answer("label(1, 6, -1, 1)", net.label(1, 6, -1, 1), 16);
+        Due.answer("label(1, 5, -1, 0)", net.label(1, 5, -1, 0), -1);
+        for (int i = 0; i < 16 && net.queue(0, 0, 1) != 4; i++) {
+            net.deliver(0, 0);
+        }
+        Nets.dueNext(net, 0, 0, 4, 0, 16, 0);
+        Due.answer("it goes by prefix 6's HOP", net.packet(0, 0), 0);
+        Due.answer("packet(0, 3)", net.packet(0, 3), -1);
+        Due.answer("packet(0, 4)", net.packet(0, 4), 5);
+        Nets.settle(net);
+        Due.answer("no WAY", net.packet(0, 0), 2);
+        Due.answer("packet(0, 1)", net.packet(0, 1), 2);
+    }
+
+    private static void deliver(LabelNet net, int link, int end, int many) {
+        for (int i = 0; i < many; i++) {
+            net.deliver(link, end);
+        }
     }
 
     private static void ttl() {

@@ -10,7 +10,6 @@ public final class LabelTest {
         waitsForReleaseAnew();
         leastFreeLabel();
         noFreeLabel();
-        lostMappingWasPut();
         Due.end();
     }
 
@@ -228,29 +227,6 @@ public final class LabelTest {
         for (int prefix = 0; prefix < 8; prefix++) {
             seen(net, 1, prefix, 0, 16 + prefix, 3);
         }
-    }
-
-    /** Link 1 is full when router 1's MAPPING is put to it: the label waits for its RELEASE all the same. */
-    private static void lostMappingWasPut() {
-        LabelNet net = Nets.line(3);
-        net.attach(7, 2);
-        Nets.settle(net);
-        for (int i = 0; i < 16; i++) {
-            net.inject(1, 7, 9);
-        }
-        net.attach(0, 0);
-        net.deliver(0, 0);
-        net.deliver(0, 0);
-        seen(net, 1, 0, 0, 17, 3);
-        Due.answer("count(1, 1), a NOTE and a MAPPING", net.count(1, 1), 2);
-        Nets.dueNext(net, 0, 1, 1, 0, 17, 3);
-        Nets.dueNext(net, 0, 0, 3, 0, 17, 0);
-        net.attach(0, -1);
-        net.deliver(0, 0);
-        seen(net, 1, 0, -1, -1);
-        Due.answer("count(1, 0)", net.count(1, 0), 2);
-        net.turn(1, false);
-        Due.answer("count(1, 0): 16 waits for link 0 alone, 17 for none", net.count(1, 0), 1);
     }
 
     private static void attachAll(LabelNet net, int router) {

@@ -6,6 +6,7 @@ public final class RunTest {
         wrong();
         order();
         atMost();
+        fiveHundred();
         Due.end();
     }
 
@@ -74,6 +75,23 @@ public final class RunTest {
         again.run(500);
         Due.answer("in one or in many runs the same is seen", java.util.Arrays.equals(Look.at(net), Look.at(again)), true);
         spoiledCounts();
+    }
+
+    /** More than 500 are to be delivered, as each one that comes asks for others. */
+    private static void fiveHundred() {
+        LabelNet net = new LabelNet(8);
+        for (int link = 0; link < 12; link++) {
+            net.lay(link, link % 8, (link + 1 + link / 8 * 2) % 8, 1);
+            net.turn(link, true);
+        }
+        for (int prefix = 0; prefix < 8; prefix++) {
+            net.attach(prefix, prefix);
+        }
+        Due.answer("run(500)", net.run(500), 500);
+        Due.answer("run(1), more wait still", net.run(1), 1);
+        int rest = net.run(500);
+        Due.answer("the rest is less: " + rest, rest > 0 && rest < 500, true);
+        Due.answer("run(500), none waits", net.run(500), 0);
     }
 
     private static void spoiledCounts() {

@@ -7,9 +7,10 @@ public final class TurnTest {
         wrong();
         comesUp();
         goesDown();
+        cutAtBothEnds();
         downReleases();
         upWithOldRecords();
-        checksBehind();
+        lowerChecksBehind();
         Due.end();
     }
 
@@ -95,6 +96,28 @@ public final class TurnTest {
         Due.answer("count(0, 0)", net.count(0, 0), 0);
     }
 
+    /** Packets in both queues of a link are lost, those in another link's queues are not. */
+    private static void cutAtBothEnds() {
+        LabelNet net = Nets.line(3);
+        net.attach(0, 0);
+        net.attach(2, 2);
+        Nets.settle(net);
+        net.inject(0, 2, 9);
+        net.inject(1, 0, 9);
+        net.inject(1, 2, 9);
+        net.inject(2, 0, 9);
+        net.turn(0, false);
+        Due.answer("packet(0, 0)", net.packet(0, 0), 6);
+        Due.answer("packet(1, 0)", net.packet(1, 0), 6);
+        Due.answer("packet(2, 0)", net.packet(2, 0), 0);
+        Due.answer("packet(3, 0)", net.packet(3, 0), 0);
+        Due.answer("packet(0, 1), where it was last", net.packet(0, 1), 0);
+        Due.answer("packet(1, 1), where it was last", net.packet(1, 1), 1);
+        Due.answer("packet(0, 2)", net.packet(0, 2), 8);
+        Due.answer("packet(0, 3), as when it was last put", net.packet(0, 3), 17);
+        Due.answer("count(0, 2)", net.count(0, 2), 2);
+    }
+
     /** Labels that wait for a link's other end are free when it goes down. */
     private static void downReleases() {
         LabelNet net = Nets.line(3);
@@ -125,23 +148,20 @@ public final class TurnTest {
         Due.answer("its own old record does nothing: queue(0, 1, 0)", net.queue(0, 1, 0), 3);
     }
 
-    /**
-     * In a ring router 2 goes by link 1, then by link 2 while that is down, and by link 1 again when it
-     * comes UP, by router 1's old record: what it mapped is put first, and withdrawn by the CHECK behind.
-     */
-    private static void checksBehind() {
-        LabelNet net = Nets.ring(0);
-        net.turn(1, false);
-        Due.answer("label(2, 0, -1, 1)", net.label(2, 0, -1, 1), 16);
-        Due.answer("label(2, 0, -1, 2)", net.label(2, 0, -1, 2), 5);
-        net.turn(1, true);
-        Due.answer("way(2, 0, 1)", net.way(2, 0, 1), 1);
-        Due.answer("label(2, 0, -1, 1), link 1 brought no mapping", net.label(2, 0, -1, 1), -1);
-        Due.answer("queue(1, 1, 0)", net.queue(1, 1, 0), 5);
-        Nets.dueNext(net, 1, 1, 0, 2, 5, 0);
-        Nets.dueNext(net, 1, 1, 0, 0, net.knows(2, 0), 0);
-        Nets.dueNext(net, 1, 1, 0, 1, 3, 0);
-        Nets.dueNext(net, 1, 1, 1, 0, 16, 5);
-        Nets.dueNext(net, 1, 1, 2, 0, 16, 0);
+    /** As in a ring router 0 goes by link 0 again at once, which has brought no mapping yet. */
+    private static void lowerChecksBehind() {
+        LabelNet net = Nets.ring(2);
+        Due.answer("label(0, 0, -1, 2)", net.label(0, 0, -1, 2), 7);
+        net.turn(0, false);
+        Due.answer("label(0, 0, -1, 2), by link 2", net.label(0, 0, -1, 2), 5);
+        for (int i = 0; i < 3; i++) {
+            net.deliver(2, 0);
+        }
+        net.turn(0, true);
+        Due.answer("way(0, 2, 1)", net.way(0, 2, 1), 0);
+        Due.answer("label(0, 0, -1, 1)", net.label(0, 0, -1, 1), -1);
+        Due.answer("queue(2, 0, 0)", net.queue(2, 0, 0), 2);
+        Nets.dueNext(net, 2, 0, 0, 0, net.knows(0, 0), 0);
+        Nets.dueNext(net, 2, 0, 2, 0, 16, 0);
     }
 }

@@ -3,10 +3,10 @@ public final class WayTest {
     public static void main(String[] args) {
         wrong();
         shortest();
+        longest();
         leastLink();
         bothSay();
         oldRecords();
-        newLinkOfTheSameCost();
         Due.end();
     }
 
@@ -60,6 +60,23 @@ public final class WayTest {
         Due.answer("a record that is known still leads nowhere", net.knows(0, 1) > 0, true);
     }
 
+    /** Seven links at the greatest cost are the longest way that there is. */
+    private static void longest() {
+        LabelNet net = new LabelNet(8);
+        for (int link = 0; link < 7; link++) {
+            net.lay(link, link, link + 1, 60);
+            net.turn(link, true);
+        }
+        Nets.settle(net);
+        ways(net, 0, 7, 420, 0);
+        ways(net, 7, 0, 420, 6);
+        ways(net, 7, 7, 0, -1);
+        net.turn(3, false);
+        Nets.settle(net);
+        ways(net, 0, 7, -1, -1);
+        ways(net, 0, 3, 180, 0);
+    }
+
     /** Of ways of the same length the one by the least link; of two links beside one another the cheaper. */
     private static void leastLink() {
         LabelNet net = ring(1, 1, 1, 1);
@@ -68,7 +85,7 @@ public final class WayTest {
         ways(net, 2, 0, 2, 1);
         ways(net, 3, 1, 2, 2);
         LabelNet beside = new LabelNet(2);
-        int[] costs = {4, 3, 2, 2};
+        int[] costs = {4, 3, 2, 2, 5};
         for (int i = 0; i < costs.length; i++) {
             beside.lay(i, 0, 1, costs[i]);
             beside.turn(i, true);
@@ -123,22 +140,5 @@ public final class WayTest {
         // Router 2 still knows router 3's record of before, which says that the link is UP.
         ways(net, 2, 3, 3, 2);
         ways(net, 1, 3, -1, -1);
-    }
-
-    /** A HOP is a link that is UP and in the router's own record; the cost and the rest make the DISTANCE. */
-    private static void newLinkOfTheSameCost() {
-        LabelNet net = new LabelNet(2);
-        net.lay(0, 0, 1, 4);
-        net.lay(1, 0, 1, 4);
-        net.lay(2, 0, 1, 3);
-        net.turn(1, true);
-        Nets.settle(net);
-        ways(net, 0, 1, 4, 1);
-        net.turn(0, true);
-        ways(net, 0, 1, 4, 0);
-        net.turn(2, true);
-        ways(net, 0, 1, 4, 0);
-        Nets.settle(net);
-        ways(net, 0, 1, 3, 2);
     }
 }
