@@ -204,9 +204,7 @@ public final class FullQueueTest {
         Due.answer("way(7, 0, 1)", net.way(7, 0, 1), 11);
         net.turn(11, false);
         Due.answer("label(7, 0, -1, 2), by router 6", net.label(7, 0, -1, 2), 255);
-        for (int i = 0; i < ROOM; i++) {
-            net.deliver(6, 1);
-        }
+        Nets.deliverAll(net, 6, 1);
         int before = net.count(0, 1);
         net.turn(11, true);
         Due.answer("label(7, 0, -1, 1)", net.label(7, 0, -1, 1), -1);

@@ -127,25 +127,25 @@ public final class InjectTest {
         Nets.settle(net);
         net.attach(5, -1);
         net.deliver(0, 0);
-        deliver(net, 1, 0, 2);
-        deliver(net, 1, 1, 2);
+        Nets.deliver(net, 1, 0, 2);
+        Nets.deliver(net, 1, 1, 2);
         Due.answer("count(1, 0): 16 is free", net.count(1, 0), 0);
         Nets.dueNext(net, 0, 0, 2, 5, 3, 0);
         Nets.dueNext(net, 0, 1, 2, 5, 16, 0);
         net.attach(5, 2);
-        deliver(net, 1, 1, 2);
+        Nets.deliver(net, 1, 1, 2);
         Due.answer("label(1, 5, -1, 1)", net.label(1, 5, -1, 1), 16);
         Nets.dueNext(net, 0, 0, 3, 5, 16, 0);
-        deliver(net, 1, 0, net.queue(1, 0, 0));
-        deliver(net, 1, 1, net.queue(1, 1, 0));
-        deliver(net, 0, 1, net.queue(0, 1, 0));
+        Nets.deliverAll(net, 1, 0);
+        Nets.deliverAll(net, 1, 1);
+        Nets.deliverAll(net, 0, 1);
         net.inject(0, 5, 9);
         Due.answer("packet(0, 3)", net.packet(0, 3), 16);
         net.attach(5, -1);
-        deliver(net, 1, 1, 1);
+        Nets.deliver(net, 1, 1, 1);
         Due.answer("count(1, 0): 16 is free again", net.count(1, 0), 0);
         net.attach(6, 2);
-        deliver(net, 1, 1, 3);
+        Nets.deliver(net, 1, 1, 3);
         Due.answer("label(1, 6, -1, 1)", net.label(1, 6, -1, 1), 16);
         Due.answer("label(1, 5, -1, 0)", net.label(1, 5, -1, 0), -1);
         for (int i = 0; i < 16 && net.queue(0, 0, 1) != 4; i++) {
@@ -158,12 +158,6 @@ public final class InjectTest {
         Nets.settle(net);
         Due.answer("no WAY", net.packet(0, 0), 2);
         Due.answer("packet(0, 1)", net.packet(0, 1), 2);
-    }
-
-    private static void deliver(LabelNet net, int link, int end, int many) {
-        for (int i = 0; i < many; i++) {
-            net.deliver(link, end);
-        }
     }
 
     private static void ttl() {

@@ -16,6 +16,17 @@ final class Nets {
         Due.tell("the net does not come to rest");
     }
 
+    static void deliver(LabelNet net, int link, int end, int many) {
+        for (int i = 0; i < many; i++) {
+            net.deliver(link, end);
+        }
+    }
+
+    /** Delivers what waits at an end of a link now; what is put there meanwhile stays. */
+    static void deliverAll(LabelNet net, int link, int end) {
+        deliver(net, link, end, net.queue(link, end, 0));
+    }
+
     /** Routers in a line: link i from i to i + 1 at a cost of i + 1, all UP and at rest. */
     static LabelNet line(int routers) {
         LabelNet net = new LabelNet(routers);
@@ -49,6 +60,11 @@ final class Nets {
         LabelNet net = new LabelNet(2);
         net.lay(0, 0, 1, 1);
         return net;
+    }
+
+    static void dueWay(LabelNet net, int r, int router, int distance, int hop) {
+        Due.answer("way(" + r + ", " + router + ", 0)", net.way(r, router, 0), distance);
+        Due.answer("way(" + r + ", " + router + ", 1)", net.way(r, router, 1), hop);
     }
 
     /** What waits first at an end of a link: kind, router or prefix or packet, number or label, path. */

@@ -1,7 +1,5 @@
 /** Sentences that can be read in more than one way: each method shows how one of them was read. */
 public final class ReadingsTest {
-    private static final int FAR_TOO_MANY = 100;
-
     public static void main(String[] args) {
         hopBesideAnotherLink();
         hopByAnotherRouter();
@@ -15,20 +13,9 @@ public final class ReadingsTest {
         Due.end();
     }
 
-    private static void ways(LabelNet net, int r, int router, int distance, int hop) {
-        Due.answer("way(" + r + ", " + router + ", 0)", net.way(r, router, 0), distance);
-        Due.answer("way(" + r + ", " + router + ", 1)", net.way(r, router, 1), hop);
-    }
-
     private static void laid(LabelNet net, int link, int a, int b, int cost) {
         net.lay(link, a, b, cost);
         net.turn(link, true);
-    }
-
-    private static void deliverAll(LabelNet net, int link, int end) {
-        for (int i = 0; i < FAR_TOO_MANY && net.deliver(link, end) != LabelNet.NONE; i++) {
-            continue;
-        }
     }
 
     // ---- 1. "the least link that is UP at it and in its own known record, with which the way begins:
@@ -42,13 +29,13 @@ public final class ReadingsTest {
         net.lay(2, 0, 1, 3);
         net.turn(1, true);
         Nets.settle(net);
-        ways(net, 0, 1, 4, 1);
+        Nets.dueWay(net, 0, 1, 4, 1);
         net.turn(0, true);
-        ways(net, 0, 1, 4, 0);
+        Nets.dueWay(net, 0, 1, 4, 0);
         net.turn(2, true);
-        ways(net, 0, 1, 4, 0);
+        Nets.dueWay(net, 0, 1, 4, 0);
         Nets.settle(net);
-        ways(net, 0, 1, 3, 2);
+        Nets.dueWay(net, 0, 1, 3, 2);
     }
 
     /** As above, and the new link leads to another router, from which the rest is as long as it must be. */
@@ -58,14 +45,14 @@ public final class ReadingsTest {
         laid(net, 2, 1, 2, 2);
         laid(net, 3, 2, 3, 3);
         Nets.settle(net);
-        ways(net, 0, 2, 4, 1);
-        ways(net, 0, 3, 7, 1);
+        Nets.dueWay(net, 0, 2, 4, 1);
+        Nets.dueWay(net, 0, 3, 7, 1);
         laid(net, 0, 0, 3, 1);
-        ways(net, 0, 2, 4, 0);
-        ways(net, 0, 3, 7, 1);
+        Nets.dueWay(net, 0, 2, 4, 0);
+        Nets.dueWay(net, 0, 3, 7, 1);
         net.deliver(0, 1);
-        ways(net, 0, 2, 4, 0);
-        ways(net, 0, 3, 1, 0);
+        Nets.dueWay(net, 0, 2, 4, 0);
+        Nets.dueWay(net, 0, 3, 1, 0);
     }
 
     // ---- 2. "until all links to which its MAPPING was put, .. have brought a RELEASE of it"
@@ -186,12 +173,12 @@ public final class ReadingsTest {
         Nets.settle(other);
         other.attach(0, -1);
         other.deliver(0, 0);
-        deliverAll(other, 1, 0);
+        Nets.deliverAll(other, 1, 0);
         Due.answer("count(1, 0)", other.count(1, 0), 1);
-        deliverAll(other, 1, 1);
+        Nets.deliverAll(other, 1, 1);
         Due.answer("link 0 had released before, and link 1 now: count(1, 0)", other.count(1, 0), 0);
-        deliverAll(other, 0, 1);
-        deliverAll(other, 0, 0);
+        Nets.deliverAll(other, 0, 1);
+        Nets.deliverAll(other, 0, 0);
         Due.answer("link 0's RELEASE of a label that is not in use: count(1, 0)", other.count(1, 0), 0);
     }
 
@@ -217,7 +204,7 @@ public final class ReadingsTest {
         Due.answer("label(1, 6, -1, 1)", net.label(1, 6, -1, 1), 17);
         net.turn(2, false);
         net.turn(4, false);
-        deliverAll(net, 0, 0);
+        Nets.deliverAll(net, 0, 0);
         Due.answer("two MAPPINGs: queue(0, 1, 0)", net.queue(0, 1, 0), 2);
         Nets.dueNext(net, 0, 1, 1, 6, 17, 23);
         Nets.dueNext(net, 0, 0, 3, 6, 17, 0);
@@ -226,12 +213,12 @@ public final class ReadingsTest {
         }
         useLabels(net, 18, 79);
         net.attach(0, 0);
-        deliverAll(net, 0, 0);
+        Nets.deliverAll(net, 0, 0);
         Due.answer("none is free: label(1, 0, -1, 1)", net.label(1, 0, -1, 1), -1);
         Due.answer("count(1, 0)", net.count(1, 0), 64);
         net.attach(7, -1);
         net.spoil(0, 0, 1);
-        deliverAll(net, 0, 0);
+        Nets.deliverAll(net, 0, 0);
         Due.answer("16 is free: count(1, 0)", net.count(1, 0), 63);
         Due.answer("no CHECK came behind: label(1, 0, -1, 1)", net.label(1, 0, -1, 1), -1);
         Nets.dueNext(net, 0, 1, 1, 6, 17, 7);

@@ -154,9 +154,7 @@ public final class TurnTest {
         Due.answer("label(0, 0, -1, 2)", net.label(0, 0, -1, 2), 7);
         net.turn(0, false);
         Due.answer("label(0, 0, -1, 2), by link 2", net.label(0, 0, -1, 2), 5);
-        for (int i = 0; i < 3; i++) {
-            net.deliver(2, 0);
-        }
+        Nets.deliverAll(net, 2, 0);
         net.turn(0, true);
         Due.answer("way(0, 2, 1)", net.way(0, 2, 1), 0);
         Due.answer("label(0, 0, -1, 1)", net.label(0, 0, -1, 1), -1);

@@ -22,14 +22,9 @@ public final class WayTest {
             Due.answer("way(0, 1, " + what + ")", net.way(0, 1, what), -1);
             Due.answer("way(0, 0, " + what + ")", net.way(0, 0, what), -1);
         }
-        ways(net, 0, 0, 0, -1);
-        ways(net, 0, 2, 3, 0);
-        ways(net, 1, 2, 2, 1);
-    }
-
-    private static void ways(LabelNet net, int r, int router, int distance, int hop) {
-        Due.answer("way(" + r + ", " + router + ", 0)", net.way(r, router, 0), distance);
-        Due.answer("way(" + r + ", " + router + ", 1)", net.way(r, router, 1), hop);
+        Nets.dueWay(net, 0, 0, 0, -1);
+        Nets.dueWay(net, 0, 2, 3, 0);
+        Nets.dueWay(net, 1, 2, 2, 1);
     }
 
     private static LabelNet ring(int... costs) {
@@ -44,19 +39,19 @@ public final class WayTest {
 
     private static void shortest() {
         LabelNet net = ring(5, 1, 1, 1, 60);
-        ways(net, 0, 1, 5, 0);
-        ways(net, 0, 4, 8, 0);
-        ways(net, 4, 0, 8, 3);
-        ways(net, 2, 0, 6, 1);
+        Nets.dueWay(net, 0, 1, 5, 0);
+        Nets.dueWay(net, 0, 4, 8, 0);
+        Nets.dueWay(net, 4, 0, 8, 3);
+        Nets.dueWay(net, 2, 0, 6, 1);
         net.turn(0, false);
         Nets.settle(net);
-        ways(net, 0, 1, 63, 4);
-        ways(net, 1, 0, 63, 1);
+        Nets.dueWay(net, 0, 1, 63, 4);
+        Nets.dueWay(net, 1, 0, 63, 1);
         net.turn(3, false);
         Nets.settle(net);
-        ways(net, 0, 1, -1, -1);
-        ways(net, 0, 4, 60, 4);
-        ways(net, 3, 1, 2, 2);
+        Nets.dueWay(net, 0, 1, -1, -1);
+        Nets.dueWay(net, 0, 4, 60, 4);
+        Nets.dueWay(net, 3, 1, 2, 2);
         Due.answer("a record that is known still leads nowhere", net.knows(0, 1) > 0, true);
     }
 
@@ -68,22 +63,22 @@ public final class WayTest {
             net.turn(link, true);
         }
         Nets.settle(net);
-        ways(net, 0, 7, 420, 0);
-        ways(net, 7, 0, 420, 6);
-        ways(net, 7, 7, 0, -1);
+        Nets.dueWay(net, 0, 7, 420, 0);
+        Nets.dueWay(net, 7, 0, 420, 6);
+        Nets.dueWay(net, 7, 7, 0, -1);
         net.turn(3, false);
         Nets.settle(net);
-        ways(net, 0, 7, -1, -1);
-        ways(net, 0, 3, 180, 0);
+        Nets.dueWay(net, 0, 7, -1, -1);
+        Nets.dueWay(net, 0, 3, 180, 0);
     }
 
     /** Of ways of the same length the one by the least link; of two links beside one another the cheaper. */
     private static void leastLink() {
         LabelNet net = ring(1, 1, 1, 1);
-        ways(net, 0, 2, 2, 0);
-        ways(net, 1, 3, 2, 0);
-        ways(net, 2, 0, 2, 1);
-        ways(net, 3, 1, 2, 2);
+        Nets.dueWay(net, 0, 2, 2, 0);
+        Nets.dueWay(net, 1, 3, 2, 0);
+        Nets.dueWay(net, 2, 0, 2, 1);
+        Nets.dueWay(net, 3, 1, 2, 2);
         LabelNet beside = new LabelNet(2);
         int[] costs = {4, 3, 2, 2, 5};
         for (int i = 0; i < costs.length; i++) {
@@ -91,14 +86,14 @@ public final class WayTest {
             beside.turn(i, true);
         }
         Nets.settle(beside);
-        ways(beside, 0, 1, 2, 2);
-        ways(beside, 1, 0, 2, 2);
+        Nets.dueWay(beside, 0, 1, 2, 2);
+        Nets.dueWay(beside, 1, 0, 2, 2);
         beside.turn(2, false);
         Nets.settle(beside);
-        ways(beside, 0, 1, 2, 3);
+        Nets.dueWay(beside, 0, 1, 2, 3);
         beside.turn(3, false);
         Nets.settle(beside);
-        ways(beside, 0, 1, 3, 1);
+        Nets.dueWay(beside, 0, 1, 3, 1);
     }
 
     /** A step needs the records of both its ends. */
@@ -107,38 +102,38 @@ public final class WayTest {
         net.lay(0, 0, 1, 7);
         net.lay(1, 1, 2, 3);
         net.turn(0, true);
-        ways(net, 0, 1, -1, -1);
-        ways(net, 1, 0, -1, -1);
+        Nets.dueWay(net, 0, 1, -1, -1);
+        Nets.dueWay(net, 1, 0, -1, -1);
         net.deliver(0, 0);
-        ways(net, 0, 1, -1, -1);
-        ways(net, 1, 0, 7, 0);
+        Nets.dueWay(net, 0, 1, -1, -1);
+        Nets.dueWay(net, 1, 0, 7, 0);
         net.deliver(0, 1);
-        ways(net, 0, 1, 7, 0);
+        Nets.dueWay(net, 0, 1, 7, 0);
         net.turn(1, true);
         net.deliver(0, 1);
-        ways(net, 0, 2, -1, -1);
+        Nets.dueWay(net, 0, 2, -1, -1);
         Due.answer("knows(0, 2)", net.knows(0, 2), 0);
         net.deliver(1, 1);
-        ways(net, 0, 2, -1, -1);
+        Nets.dueWay(net, 0, 2, -1, -1);
         net.deliver(0, 1);
-        ways(net, 0, 2, 10, 0);
+        Nets.dueWay(net, 0, 2, 10, 0);
     }
 
     /** What a router knows counts, not what is. */
     private static void oldRecords() {
         LabelNet net = Nets.line(4);
         net.turn(2, false);
-        ways(net, 0, 3, 6, 0);
-        ways(net, 1, 3, 5, 1);
-        ways(net, 2, 3, -1, -1);
+        Nets.dueWay(net, 0, 3, 6, 0);
+        Nets.dueWay(net, 1, 3, 5, 1);
+        Nets.dueWay(net, 2, 3, -1, -1);
         net.deliver(1, 1);
-        ways(net, 1, 3, -1, -1);
-        ways(net, 0, 3, 6, 0);
+        Nets.dueWay(net, 1, 3, -1, -1);
+        Nets.dueWay(net, 0, 3, 6, 0);
         net.deliver(0, 1);
-        ways(net, 0, 3, -1, -1);
+        Nets.dueWay(net, 0, 3, -1, -1);
         net.turn(2, true);
         // Router 2 still knows router 3's record of before, which says that the link is UP.
-        ways(net, 2, 3, 3, 2);
-        ways(net, 1, 3, -1, -1);
+        Nets.dueWay(net, 2, 3, 3, 2);
+        Nets.dueWay(net, 1, 3, -1, -1);
     }
 }
