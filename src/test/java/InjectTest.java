@@ -7,6 +7,7 @@ public final class InjectTest {
         wrong();
         sixtyFour();
         byLabels();
+        eachPrefixByItsLabel();
         withoutMapping();
         noLabel();
         labelWhereItIsAttached();
@@ -71,6 +72,23 @@ public final class InjectTest {
         net.inject(3, 4, 9);
         Due.answer("no WAY", net.packet(2, 0), 2);
         Due.answer("its TTL is as it was", net.packet(2, 2), 9);
+    }
+
+    /** Prefixes come in the order 7 to 0, so that labels and prefixes are not in the same order. */
+    private static void eachPrefixByItsLabel() {
+        LabelNet net = Nets.line(3);
+        for (int prefix = 7; prefix >= 0; prefix--) {
+            net.attach(prefix, 2);
+            Nets.settle(net);
+        }
+        for (int prefix = 0; prefix < 8; prefix++) {
+            Due.answer("inject(0, " + prefix + ", 2)", net.inject(0, prefix, 2), prefix);
+            Nets.dueNext(net, 0, 0, 4, prefix, 23 - prefix, 0);
+            Nets.dueNext(net, 1, 0, 4, prefix, -1, 0);
+            Due.answer("DELIVERED", net.packet(prefix, 0), 1);
+            Due.answer("packet(" + prefix + ", 1)", net.packet(prefix, 1), 2);
+            Due.answer("packet(" + prefix + ", 4)", net.packet(prefix, 4), prefix);
+        }
     }
 
     /** The EGRESS is known, the mapping did not come: the packet goes without a label. */
